@@ -1005,12 +1005,15 @@ public final class BarnPictures {
 
         private int readMinutes(Text text) {
             int minutes = 0;
-            int digit = digitAt(text);
-            // A 0 in front leaves the minutes at 0, which a number that begins otherwise never is.
-            while (digit != NO_DIGIT && minutes * 10 + digit > 0 && minutes * 10 + digit <= MOST_FUEL) {
-                minutes = minutes * 10 + digit;
+            for (int digits = 0; digits < TEXT_ROOM; digits++) {
+                int digit = digitAt(text);
+                int grown = minutes * 10 + digit;
+                // Only a 0 in front leaves the minutes at 0.
+                if (digit == NO_DIGIT || grown == 0 || grown > MOST_FUEL) {
+                    break;
+                }
+                minutes = grown;
                 at++;
-                digit = digitAt(text);
             }
             return isFuelOnSale(minutes) ? minutes : NO_MINUTES;
         }

@@ -7,6 +7,8 @@ public final class HistoryTest {
         oldestIsDropped();
         undoIsNoAct();
         undoBringsAllBack();
+        eachActIsUndone();
+        wornReelsAreBroughtBack();
         keepAndRestore();
         snapshotStays();
         snapshotIsNoPartOfAState();
@@ -83,6 +85,60 @@ public final class HistoryTest {
         x.undo();
         CHECK.due("undo()", x.undo(), 1);
         CHECK.due("all is as before", before.equals(World.told(x)) ? 1 : 0, 1);
+    }
+
+    /** Does the act of a number, of 0 to 10. */
+    private static int act(BarnPictures x, int number) {
+        switch (number) {
+            case 0: return x.drive(2);
+            case 1: return x.moveReel(3, false);
+            case 2: return x.moveReel(0, true);
+            case 3: return x.moveGenerator(1, false);
+            case 4: return x.fuel(1, 10);
+            case 5: return x.renew(5);
+            case 6: return x.setPrice(11);
+            case 7: return x.show(0);
+            case 8: return x.perform();
+            case 9: return x.restore();
+            default: return x.nextDay();
+        }
+    }
+
+    private static void eachActIsUndone() {
+        for (int number = 0; number <= 10; number++) {
+            BarnPictures x = new BarnPictures();
+            CHECK.through(x, "f0:5,d,-0,-1,-2,-4");
+            x.keep();
+            x.moveReel(6, false);
+            x.moveGenerator(0, false);
+            Check.write(x, "d,v1");
+            String before = World.told(x);
+            CHECK.due("act " + number + " is done", act(x, number) >= 0 ? 1 : 0, 1);
+            CHECK.due("states", x.count(13), 4);
+            CHECK.due("act " + number + " has changed something", before.equals(World.told(x)) ? 1 : 0, 0);
+            CHECK.due("undo()", x.undo(), 3);
+            CHECK.due("act " + number + " is undone", before.equals(World.told(x)) ? 1 : 0, 1);
+        }
+    }
+
+    private static void wornReelsAreBroughtBack() {
+        BarnPictures x = new BarnPictures();
+        CHECK.through(x, "f0:440,f1:300,-0,g0,s,d,s,d,s,d,s,d,s,d,s,d,s,d,s");
+        CHECK.through(x, "v2,-1,g1,s");
+        String before = World.told(x);
+        x.keep();
+        CHECK.through(x, "d,s,d,s,d,s,d,s,d,s,d,s,v0,s,d,s,d,s,d,s,d,s");
+        String later = World.told(x);
+        CHECK.due("more splices", x.count(12), 3);
+        x.undo();
+        CHECK.due("splices", x.count(12), 1);
+        CHECK.due("splices of a reel", x.reel(0, 3) + x.reel(1, 3), 1);
+        CHECK.due("shown today", x.barn(0, 6), 1);
+        CHECK.due("all is as before", before.equals(World.told(x)) ? 1 : 0, 1);
+        x.perform();
+        CHECK.due("all is as later", later.equals(World.told(x)) ? 1 : 0, 1);
+        x.restore();
+        CHECK.due("all is as kept", before.equals(World.told(x)) ? 1 : 0, 1);
     }
 
     private static void keepAndRestore() {

@@ -153,7 +153,8 @@ public final class ModelTest {
         boolean closely = upTo(10) == 0 && !name.equals("perform");
         String before = closely ? World.wholeOf(program) : "";
         int answer = asked(name, a, b);
-        CHECK.due("run " + run + ", call " + calls + ": " + name + "(" + a + ", " + b + ")", answer, model.call(name, a, b));
+        String told = "run " + run + ", call " + calls + ": " + name + "(" + a + ", " + b + ")";
+        CHECK.due(told, answer, model.call(name, a, b));
         if (closely && answer < 0) {
             CHECK.due("nothing is changed by " + name, before.equals(World.wholeOf(program)) ? 1 : 0, 1);
         }

@@ -126,6 +126,13 @@ public final class TellingTest {
 
     private static void bestBarn() {
         BarnPictures x = new BarnPictures();
+        CHECK.through(x, "-9,g0");
+        CHECK.due("the only one", x.bestBarn(), 0);
+        CHECK.through(x, "v3,-8,g1");
+        CHECK.due("50 seats, not 40", x.bestBarn(), 3);
+        x.undo();
+        x.undo();
+        CHECK.due("none", x.bestBarn(), BarnPictures.NONE);
         CHECK.through(x, "v4,-0,g0");
         CHECK.due("the only one", x.bestBarn(), 4);
         CHECK.through(x, "v2,-1");
