@@ -73,90 +73,46 @@ public final class HistoryTest {
         CHECK.due("states", x.count(13), 0);
     }
 
-    private static void undoBringsAllBack() {
-        BarnPictures x = new BarnPictures();
-        CHECK.through(x, "f0:40,-0,-1,-2,-3,g0");
-        String before = World.told(x);
-        CHECK.through(x, "s,d,f1:10,v2,-4,g1,s,+4,-5");
-        x.renew(9);
-        x.setPrice(20);
-        CHECK.due("something has changed", before.equals(World.told(x)) ? 1 : 0, 0);
-        x.undo();
-        x.undo();
-        CHECK.due("undo()", x.undo(), 1);
-        CHECK.due("all is as before", before.equals(World.told(x)) ? 1 : 0, 1);
+    /** Whether two runs on new objects leave the same state. */
+    private static boolean same(String one, String other) {
+        return World.told(Script.calls(one)).equals(World.told(Script.calls(other)));
     }
 
-    /** Does the act of a number, of 0 to 10. */
-    private static int act(BarnPictures x, int number) {
-        switch (number) {
-            case 0: return x.drive(2);
-            case 1: return x.moveReel(3, false);
-            case 2: return x.moveReel(0, true);
-            case 3: return x.moveGenerator(1, false);
-            case 4: return x.fuel(1, 10);
-            case 5: return x.renew(5);
-            case 6: return x.setPrice(11);
-            case 7: return x.show(0);
-            case 8: return x.perform();
-            case 9: return x.restore();
-            default: return x.nextDay();
-        }
+    private static void undoBringsAllBack() {
+        String before = "route(f0:40,-0,-1,-2,-3,g0); ";
+        String later = before + "route(s,d,f1:10,v2,-4,g1,s,+4,-5); renew(9); setPrice(20); ";
+        CHECK.holds("something has changed", !same(before, later));
+        CHECK.holds("3 undo() bring all back", same(before, later + "undo(); undo(); undo()"));
     }
 
     private static void eachActIsUndone() {
-        for (int number = 0; number <= 10; number++) {
-            BarnPictures x = new BarnPictures();
-            CHECK.through(x, "f0:5,d,-0,-1,-2,-4");
-            x.keep();
-            x.moveReel(6, false);
-            x.moveGenerator(0, false);
-            Check.write(x, "d,v1");
-            String before = World.told(x);
-            CHECK.due("act " + number + " is done", act(x, number) >= 0 ? 1 : 0, 1);
-            CHECK.due("states", x.count(13), 4);
-            CHECK.due("act " + number + " has changed something", before.equals(World.told(x)) ? 1 : 0, 0);
-            CHECK.due("undo()", x.undo(), 3);
-            CHECK.due("act " + number + " is undone", before.equals(World.told(x)) ? 1 : 0, 1);
+        String[] acts = {
+            "drive(2)", "moveReel(3, false)", "moveReel(0, true)", "moveGenerator(1, false)", "fuel(1, 10)",
+            "renew(5)", "setPrice(11)", "show(0)", "perform()", "restore()", "nextDay()"};
+        String before = "route(f0:5,d,-0,-1,-2,-4); keep(); moveReel(6, false); moveGenerator(0, false); text(d,v1); ";
+        for (String act : acts) {
+            CHECK.holds(act + " changes something", !same(before, before + act));
+            CHECK.holds(act + " is undone", same(before, before + act + "; undo()"));
+            CHECK.sentence(act + " records a state", before + act + "; count(13) = 4; undo() = 3");
         }
     }
 
     private static void wornReelsAreBroughtBack() {
-        BarnPictures x = new BarnPictures();
-        CHECK.through(x, "f0:440,f1:300,-0,g0,s,d,s,d,s,d,s,d,s,d,s,d,s,d,s");
-        CHECK.through(x, "v2,-1,g1,s");
-        String before = World.told(x);
-        x.keep();
-        CHECK.through(x, "d,s,d,s,d,s,d,s,d,s,d,s,v0,s,d,s,d,s,d,s,d,s");
-        String later = World.told(x);
-        CHECK.due("more splices", x.count(12), 3);
-        x.undo();
-        CHECK.due("splices", x.count(12), 1);
-        CHECK.due("splices of a reel", x.reel(0, 3) + x.reel(1, 3), 1);
-        CHECK.due("shown today", x.barn(0, 6), 1);
-        CHECK.due("all is as before", before.equals(World.told(x)) ? 1 : 0, 1);
-        x.perform();
-        CHECK.due("all is as later", later.equals(World.told(x)) ? 1 : 0, 1);
-        x.restore();
-        CHECK.due("all is as kept", before.equals(World.told(x)) ? 1 : 0, 1);
+        String before = "route(f0:440,f1:300,-0,g0,s,d,s,d,s,d,s,d,s,d,s,d,s,d,s); route(v2,-1,g1,s); ";
+        String later = before + "keep(); route(d,s,d,s,d,s,d,s,d,s,d,s,v0,s,d,s,d,s,d,s,d,s); ";
+        CHECK.sentence("splices", before + "count(12) = 1; barn(0, 6) = 1; reel(0, 3) = 1; reel(1, 3) = 0");
+        CHECK.sentence("more splices", later + "count(12) = 3; undo(); count(12) = 1; reel(0, 3) = 1; reel(1, 3) = 0");
+        CHECK.holds("all is as before", same(before, later + "undo()"));
+        CHECK.holds("all is as later", same(later, later + "undo(); perform()"));
+        CHECK.holds("all is as kept", same(before, later + "restore()"));
     }
 
     private static void keepAndRestore() {
-        BarnPictures x = new BarnPictures();
-        CHECK.due("restore() of none", x.restore(), BarnPictures.NONE);
-        CHECK.due("no state", x.count(13), 0);
-        CHECK.through(x, "d,d,d,-0,g0,s");
-        CHECK.due("keep()", x.keep(), 3);
-        CHECK.due("no state of keep()", x.count(13), 1);
-        String kept = World.told(x);
-        CHECK.through(x, "d,v1,-1,g1,s");
-        x.setPrice(9);
-        String later = World.told(x);
-        CHECK.due("restore()", x.restore(), 3);
-        CHECK.due("all is as kept", kept.equals(World.told(x)) ? 1 : 0, 1);
-        CHECK.due("it is an act", x.count(13), 4);
-        CHECK.due("undo() of it", x.undo(), 3);
-        CHECK.due("all is as later", later.equals(World.told(x)) ? 1 : 0, 1);
+        String kept = "restore() = NONE; count(13) = 0; route(d,d,d,-0,g0,s); keep() = 3; count(13) = 1; ";
+        String later = kept + "route(d,v1,-1,g1,s); setPrice(9); ";
+        CHECK.sentence("restore() is an act", later + "restore() = 3; count(13) = 4; undo() = 3; count(0) = 4");
+        CHECK.holds("all is as kept", same(kept, later + "restore()"));
+        CHECK.holds("all is as later", same(later, later + "restore(); undo()"));
     }
 
     private static void snapshotStays() {

@@ -1,9 +1,10 @@
+import java.util.ArrayList;
+import java.util.List;
 import java.util.Random;
 
 /** Compares many calls by chance, always the same ones, with what the model answers. */
 public final class ModelTest {
     private static final int RUNS = 1500;
-    private static final int CALLS = 512;
     private static final Check CHECK = new Check();
     private static final String[] ACTS = {
         "drive", "moveReel", "moveGenerator", "fuel", "renew", "setPrice", "show", "nextDay", "perform", "restore"};
@@ -16,7 +17,7 @@ public final class ModelTest {
     private final BarnPictures program = new BarnPictures();
     private final Model model = new Model();
     private final int run;
-    private int calls = 0;
+    private final List<Call> calls = new ArrayList<>();
 
     private ModelTest(int run) {
         this.run = run;
@@ -26,7 +27,7 @@ public final class ModelTest {
     public static void main(String[] args) {
         for (int run = 0; run < RUNS; run++) {
             ModelTest test = new ModelTest(run);
-            while (test.calls < CALLS) {
+            while (test.calls.size() < Call.MOST) {
                 test.step();
             }
         }
@@ -145,46 +146,17 @@ public final class ModelTest {
     }
 
     private void call(String name, int a, int b) {
-        if (calls >= CALLS) {
+        if (calls.size() >= Call.MOST) {
             return;
         }
-        calls++;
-        // Now and then a call that is refused is looked at more closely: it must change nothing.
-        boolean closely = upTo(10) == 0 && !name.equals("perform");
-        String before = closely ? World.wholeOf(program) : "";
-        int answer = asked(name, a, b);
-        String told = "run " + run + ", call " + calls + ": " + name + "(" + a + ", " + b + ")";
-        CHECK.due(told, answer, model.call(name, a, b));
-        if (closely && answer < 0) {
-            CHECK.due("nothing is changed by " + name, before.equals(World.wholeOf(program)) ? 1 : 0, 1);
+        Call call = new Call(name, a, b);
+        int answer = call.on(program);
+        String told = "run " + run + ", call " + (calls.size() + 1) + ": " + call;
+        CHECK.due(told, answer, call.on(model));
+        // Now and then a call is looked at more closely; it is dear, as objects are made anew for it.
+        if (calls.size() < World.MOST_BEFORE && upTo(150) == 0) {
+            CHECK.looksBehind(told, calls, call, answer);
         }
-    }
-
-    private int asked(String name, int a, int b) {
-        switch (name) {
-            case "drive": return program.drive(a);
-            case "moveReel": return program.moveReel(a, b != 0);
-            case "moveGenerator": return program.moveGenerator(a, b != 0);
-            case "fuel": return program.fuel(a, b);
-            case "renew": return program.renew(a);
-            case "setPrice": return program.setPrice(a);
-            case "show": return program.show(a);
-            case "nextDay": return program.nextDay();
-            case "type": return program.type((char) a);
-            case "clearText": return program.clearText();
-            case "perform": return program.perform();
-            case "stopped": return program.stopped(a);
-            case "undo": return program.undo();
-            case "keep": return program.keep();
-            case "restore": return program.restore();
-            case "reel": return program.reel(a, b);
-            case "generator": return program.generator(a, b);
-            case "barn": return program.barn(a, b);
-            case "bestBarn": return program.bestBarn();
-            case "ifPrice": return program.ifPrice(a, b);
-            case "showOf": return program.showOf(a, b);
-            case "count": return program.count(a);
-            default: throw new IllegalArgumentException(name);
-        }
+        calls.add(call);
     }
 }
